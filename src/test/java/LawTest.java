@@ -10,6 +10,7 @@ public final class LawTest {
         worth();
         names();
         held();
+        deep();
         randomTexts();
         Check.finish();
     }
@@ -192,6 +193,19 @@ public final class LawTest {
         x.mend(0, 3, 0);
         x.evening(0);
         Check.due("99 in all", x.of(0, 4), 99);
+    }
+
+    /** As much as can wait for a second operand at once, and as many lines as a tape has room for. */
+    private static void deep() {
+        String text = "0|1&9>2+1*(".repeat(6) + "0|1&9>2+1*n" + "))))))";
+        Check.due("Model's worth", Model.worth(text, new int[] {5, 6, 7, 88, 2, 9}), 1);
+        worth(text, 1);
+        worth(text.replace("*n", "*h"), Model.worth(text.replace("*n", "*h"), new int[] {5, 6, 7, 88, 2, 9}));
+        worth("3-(".repeat(6) + "3-1" + "))))))", 2);
+        worth("0?1;".repeat(29) + "1?77", 77);
+        worth("0;".repeat(59) + "77", 0);
+        worth("1+".repeat(59) + "1", 60);
+        worth("1234+".repeat(20) + "0-1234*20+55", 55);
     }
 
     private static void randomTexts() {
