@@ -1297,12 +1297,11 @@ public final class DebtSerenade {
         /** How many evenings are needed: at least as many as the largest crowd has DEBTS. */
         int planAll() {
             Arrays.fill(sungOn, 0);
-            for (int limit = Integer.bitCount(largestCrowd()); limit < MOST_DEBTS; limit++) {
+            for (int limit = Integer.bitCount(largestCrowd()); limit <= MOST_DEBTS; limit++) {
                 if (plan(0, 0, limit)) {
                     return limit;
                 }
             }
-            plan(0, 0, MOST_DEBTS);
             return MOST_DEBTS;
         }
 

@@ -95,6 +95,10 @@ public final class DeedsTest {
         Check.due("lend", x.lend(0, 140), 140);
         Check.due("999 at most", x.of(0, 3), 999);
         led(x, 0, 0, 0, 1049, 0);
+        x.mend(1, 3, 999);
+        x.mend(0, 5, 0);
+        Check.due("as much as can be", x.lend(0, 999), 999);
+        Check.due("purse", x.of(1, 3), 0);
     }
 
     private static void letOff() {
@@ -212,6 +216,36 @@ public final class DeedsTest {
         Check.due("still 40", x.count(3), 40);
         x.undo();
         Check.due("purse", x.of(0, 3), 145);
+        unlike();
+    }
+
+    /** Of fifty changes of unlike numbers the first ten are forgotten, each with all that belongs to it. */
+    private static void unlike() {
+        DebtSerenade x = three();
+        int[][] states = new int[51][];
+        for (int i = 0; i < 50; i++) {
+            states[i] = numbers(x);
+            x.mend(i % 3, i % 5, 7 + i / 15 % 2);
+        }
+        states[50] = numbers(x);
+        Check.due("40 are kept", x.count(3), 40);
+        for (int i = 49; i >= 10; i--) {
+            Check.due("undo", x.undo(), i - 10);
+            Check.due("as it was ahead of " + i, java.util.Arrays.equals(numbers(x), states[i]) ? 1 : 0, 1);
+        }
+        Check.due("none", x.undo(), DebtSerenade.STATE);
+        for (int i = 11; i <= 50; i++) {
+            Check.due("redo", x.redo(), 50 - i);
+            Check.due("as it was behind " + i, java.util.Arrays.equals(numbers(x), states[i]) ? 1 : 0, 1);
+        }
+    }
+
+    private static int[] numbers(DebtSerenade x) {
+        int[] all = new int[15];
+        for (int i = 0; i < 15; i++) {
+            all[i] = x.of(i % 3, i / 3);
+        }
+        return all;
     }
 
     private static void undoBesideDeeds() {

@@ -44,6 +44,21 @@ public final class LanesTest {
         x.mend(1, 0, 0);
         Check.due("the same house", x.lane(1), 1);
         fewerThanGreedy();
+        allClash();
+    }
+
+    private static void allClash() {
+        DebtSerenade x = new DebtSerenade();
+        Check.people(x, 3, 3, 3);
+        for (int i = 0; i < 12; i++) {
+            x.debt(i % 2 == 0 ? 1 : 12, 1);
+        }
+        Check.due("twelve", x.lane(-1), 12);
+        Check.due("twelve", x.crowd(0), 12);
+        Check.due("all", x.crowd(1), 4095);
+        for (int i = 0; i < 12; i++) {
+            Check.due("one behind the other", x.lane(i), i);
+        }
     }
 
     /** Where the first evening that is free for each DEBT would need one evening more than there must be. */
@@ -126,6 +141,15 @@ public final class LanesTest {
         Check.due("songs end", x.judge(1), 1);
         x.row(1, 1, 0);
         Check.due("an empty ledger", x.judge(1), DebtSerenade.NOT);
+        Check.row(x, 5, 0, 0, 0, 0);
+        Check.row(x, 0, 1, 2, 0, 2);
+        Check.row(x, 4, 0, 12);
+        Check.due("songs by the tens", x.judge(50), DebtSerenade.NOT);
+        Check.due("hearts by the tens", x.hearts(50, 1, 0), 13);
+        x.put(0, 2, 3);
+        Check.due("the third", x.judge(50), 2);
+        Check.due("-12 of songs ahead of -11 of the ledger", x.judge(3), -12);
+        Check.due("-11 of songs ahead of -12 of the ledger", x.judge(34), -11);
     }
 
     private static void hearts() {

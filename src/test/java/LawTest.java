@@ -185,6 +185,10 @@ public final class LawTest {
         Check.due("99 at most", x.moves(0), 99);
         Check.due("fault", Check.law(x, "h+"), -102);
         Check.due("the law stays", x.moves(0), 99);
+        Check.due("fault", Check.law(x, "+h"), -100);
+        Check.due("the law stays", x.moves(0), 99);
+        Check.due("an empty tape", x.law(), -100);
+        Check.due("the law stays", x.moves(0), 99);
         Check.due("law", Check.law(x, "0-s"), 1);
         Check.due("0 at least", x.moves(0), 0);
         x.mend(0, 4, 95);

@@ -87,6 +87,20 @@ public final class PeopleTest {
         Check.due("far behind the end", x.debts(0, Integer.MAX_VALUE, 12), 0);
         Check.due("count", x.count(1), 3);
         Check.due("sum", x.of(2, 5), 20);
+        DebtSerenade y = new DebtSerenade();
+        Check.people(y, 1, 2, 3);
+        Check.row(y, 0, 1, 0, 1, 10, 1, 2, 20, 2, 1, 30, 2, 0, 40);
+        Check.due("to the last three", y.debts(0, 3, 12), 3);
+        Check.due("sum", y.of(2, 5), 40);
+        Check.row(y, 0, 1, 0, 1, 1000, 0, 1, 5);
+        Check.due("sum above", y.debts(0, 0, 2), 0);
+        Check.row(y, 0, 1, 0, 1, -1);
+        Check.due("sum below", y.debts(0, 0, 1), 0);
+        Check.row(y, 0, 1, 0, 3, 1, 3, 0, 1, -1, 0, 1);
+        Check.due("nobody", y.debts(0, 0, 1), 0);
+        Check.due("nobody", y.debts(0, 3, 1), 0);
+        Check.due("nobody", y.debts(0, 6, 1), 0);
+        Check.due("count", y.count(1), 3);
         long[] many = new long[60];
         for (int i = 0; i < 20; i++) {
             many[3 * i] = 2;
