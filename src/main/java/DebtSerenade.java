@@ -75,7 +75,7 @@ public final class DebtSerenade {
     }
 
     public int debts(int shelf, int i, int n) {
-        if (!isShelf(shelf) || i < 0 || n < 1 || n > MOST_DEBTS) {
+        if (!isShelf(shelf) || n < 1 || n > MOST_DEBTS) {
             return BAD;
         }
         Shelf row = shelves[shelf];
@@ -86,7 +86,8 @@ public final class DebtSerenade {
             return OTHER_KIND;
         }
         int came = 0;
-        int left = i < row.length ? (row.length - i) / 3 : 0;
+        // Any place may be told: where the row has no element, below 0 too, it ends.
+        int left = i >= 0 && i < row.length ? (row.length - i) / 3 : 0;
         while (came < n && came < left && debtFrom(row, i + 3 * came)) {
             came++;
         }
