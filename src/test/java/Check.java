@@ -1,7 +1,15 @@
+import java.io.IOException;
+import java.nio.charset.StandardCharsets;
+import java.nio.file.Files;
+import java.nio.file.Path;
+
 /** What the tests share: it counts and prints each answer that is not the one that is due. */
 final class Check {
+    private static final Path DOCUMENT = Path.of("../shared/DOC.md");
     private static int calls = 0;
     private static int wrong = 0;
+    private static String document = null;
+    private static String sentence = "";
 
     private Check() {
     }
@@ -11,9 +19,28 @@ final class Check {
         if (got != want) {
             wrong++;
             if (wrong <= 40) {
-                System.out.println(call + " answered " + got + ", due is " + want);
+                System.out.println(sentence + call + " answered " + got + ", due is " + want);
             }
         }
+    }
+
+    /** The sentence of the document that the answers from now on are about: it must stand there, word by word. */
+    static void says(String words) {
+        sentence = "";
+        due("the document says: " + words, document().contains(words) ? 1 : 0, 1);
+        sentence = "'" + words + "': ";
+    }
+
+    /** The document in one line, each run of blanks as one. */
+    private static String document() {
+        if (document == null) {
+            try {
+                document = Files.readString(DOCUMENT, StandardCharsets.UTF_8).replaceAll("\\s+", " ");
+            } catch (IOException e) {
+                document = "";
+            }
+        }
+        return document;
     }
 
     static void finish() {
