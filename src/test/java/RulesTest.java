@@ -93,7 +93,22 @@ public final class RulesTest {
         while (imports.find()) {
             Check.due("import " + imports.group(1), List.of("java.util.Arrays").contains(imports.group(1)) ? 1 : 0, 1);
         }
+        making(code.split("\\n"));
         lengths(text.split("\\n"));
+    }
+
+    /** Objects and rows are made with the lane alone: in fields, and in constructors, which bear no type. */
+    private static void making(String[] lines) {
+        String method = "";
+        for (String line : lines) {
+            if (line.matches(" {4,8}[\\w ]+\\(.*\\) \\{") && !line.matches(" *(if|for|while|switch) .*")) {
+                method = line.trim();
+            }
+            boolean field = line.matches(" {4,8}(private )?final [\\w\\[\\]]+ \\w+ = new .*;");
+            if (line.matches(".*\\bnew\\b.*") && !field) {
+                Check.due("new in " + method, method.matches("(public )?[A-Z]\\w*\\(.*") ? 1 : 0, 1);
+            }
+        }
     }
 
     private static void lengths(String[] lines) {

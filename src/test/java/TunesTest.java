@@ -50,12 +50,7 @@ public final class TunesTest {
             for (int act = 0; act < 4; act++) {
                 int v = xs[(i + act) % xs.length];
                 RAN.clear();
-                int want = switch (act) {
-                    case 0 -> tune.sings(v);
-                    case 1 -> tune.moves(v);
-                    case 2 -> tune.hums(v);
-                    default -> tune.tells(v);
-                };
+                int want = acted(tune, act, v);
                 String call = "act(" + i + ", " + act + ", " + v + ") of kind " + kind;
                 Check.due(call, x.act(i, act, v), want);
                 Check.due("count(5) behind " + call, x.count(5), RAN.size());
@@ -66,6 +61,29 @@ public final class TunesTest {
                 Check.due("trace(-1)", x.trace(-1), DebtSerenade.BAD);
             }
         }
+    }
+
+    private static int acted(Tune tune, int act, int x) {
+        return switch (act) {
+            case 0 -> tune.sings(x);
+            case 1 -> tune.moves(x);
+            case 2 -> tune.hums(x);
+            default -> tune.tells(x);
+        };
+    }
+
+    /** An act of a new tune, for other tests; ran() tells by which bodies. */
+    static int act(int kind, int n, int act, int x) {
+        RAN.clear();
+        return acted(tune(kind, n), act, x);
+    }
+
+    static List<Integer> ran() {
+        return List.copyOf(RAN);
+    }
+
+    static boolean isOf(int kind, int other) {
+        return tune(other, 0).getClass().isInstance(tune(kind, 0));
     }
 
     private static Tune tune(int kind, int n) {
