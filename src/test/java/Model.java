@@ -412,26 +412,33 @@ final class Model {
         return owed;
     }
 
-    /** The evenings of the DEBTS above 0, tried like the digits of a number. */
+    /** The evenings of the DEBTS above 0, tried like the digits of a number; what begins wrongly is gone past at once. */
     int[] lane() {
         List<Integer> owed = owed();
         for (int many = 0; many <= owed.size(); many++) {
             int[] digits = new int[owed.size()];
-            do {
-                if (many > 0 || digits.length == 0) {
-                    if (fits(owed, digits)) {
-                        return digits;
-                    }
+            boolean more = many > 0 || digits.length == 0;
+            while (more) {
+                int wrong = firstClash(owed, digits);
+                if (wrong < 0) {
+                    return digits;
                 }
-            } while (many > 0 && count(digits, many));
+                more = count(digits, wrong, many);
+            }
         }
         return new int[0];
     }
 
-    private static boolean count(int[] digits, int base) {
-        for (int i = digits.length - 1; i >= 0; i--) {
+    /** The next number that is unlike up to a place; a digit is at most one above all ahead of it (first needed). */
+    private static boolean count(int[] digits, int place, int base) {
+        java.util.Arrays.fill(digits, place + 1, digits.length, 0);
+        for (int i = place; i >= 0; i--) {
+            int top = -1;
+            for (int j = 0; j < i; j++) {
+                top = Math.max(top, digits[j]);
+            }
             digits[i]++;
-            if (digits[i] < base) {
+            if (digits[i] < base && digits[i] <= top + 1) {
                 return true;
             }
             digits[i] = 0;
@@ -439,15 +446,15 @@ final class Model {
         return false;
     }
 
-    private boolean fits(List<Integer> owed, int[] evenings) {
+    private int firstClash(List<Integer> owed, int[] evenings) {
         for (int i = 0; i < evenings.length; i++) {
             for (int j = 0; j < i; j++) {
                 if (evenings[i] == evenings[j] && !together(owed.get(i), owed.get(j))) {
-                    return false;
+                    return i;
                 }
             }
         }
-        return true;
+        return -1;
     }
 
     int crowd() {

@@ -81,7 +81,8 @@ public final class ModelTest {
         Check.due(name + "settle", x.settle(), Model.settle(above, 0));
         Check.due(name + "help(0)", x.help(0), m.help()[0]);
         Check.due(name + "help(1)", x.help(1), m.help()[1]);
-        int top = m.debts.size() > 6 ? 2 : m.debts.size() > 4 ? 3 : 4;
+        boolean small = m.debts.size() <= 4 || m.debts.size() == 12;
+        int top = small ? 4 : m.debts.size() <= 6 ? 3 : 2;
         for (int t = 0; t <= top; t++) {
             int[] best = m.best(t);
             for (int k = -1; k < t; k++) {
@@ -94,22 +95,16 @@ public final class ModelTest {
         int crowd = m.crowd();
         Check.due(name + "crowd(0)", x.crowd(0), Integer.bitCount(crowd));
         Check.due(name + "crowd(1)", x.crowd(1), crowd);
-        int owed = 0;
-        for (int[] d : m.debts) {
-            owed += d[2] > 0 ? 1 : 0;
+        int[] evenings = m.lane();
+        int many = 0;
+        int at = 0;
+        for (int d = 0; d < m.debts.size(); d++) {
+            boolean owes = m.debts.get(d)[2] > 0;
+            Check.due(name + "lane(" + d + ")", x.lane(d), owes ? evenings[at] : -2);
+            many = owes ? Math.max(many, evenings[at] + 1) : many;
+            at += owes ? 1 : 0;
         }
-        if (owed <= 6) {
-            int[] evenings = m.lane();
-            int many = 0;
-            int at = 0;
-            for (int d = 0; d < m.debts.size(); d++) {
-                boolean owes = m.debts.get(d)[2] > 0;
-                Check.due(name + "lane(" + d + ")", x.lane(d), owes ? evenings[at] : -2);
-                many = owes ? Math.max(many, evenings[at] + 1) : many;
-                at += owes ? 1 : 0;
-            }
-            Check.due(name + "lane(-1)", x.lane(-1), many);
-        }
+        Check.due(name + "lane(-1)", x.lane(-1), many);
         for (int one = 0; one < m.people.size(); one++) {
             int house = below(16);
             int c = below(1000);

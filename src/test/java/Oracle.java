@@ -4,7 +4,7 @@ import java.util.List;
 
 /** A whole lane as the document tells it: Model, and what is kept beside it. Each call by its name. */
 final class Oracle {
-    /** What the plain ways of Model would take too long for. */
+    /** BEST, where the plain way of Model would take too long. */
     static final long UNKNOWN = Long.MAX_VALUE;
     private static final long BAD = -1, NOT = -2, FULL = -3, STATE = -5, VOID = -2000000000;
     private static final int[] TOPS = {15, 9, 12, 999, 99, 999, 15, 99};
@@ -224,14 +224,6 @@ final class Oracle {
         return a[2] == 0 ? paid : a[2] == 1 ? zero : first;
     }
 
-    private int owed() {
-        int owed = 0;
-        for (int[] d : now.debts) {
-            owed += d[2] > 0 ? 1 : 0;
-        }
-        return owed;
-    }
-
     private long sums(String name, int[] a) {
         switch (name) {
             case "above":
@@ -282,9 +274,6 @@ final class Oracle {
         }
         if (k >= 0 && now.debts.get(k)[2] == 0) {
             return NOT;
-        }
-        if (owed() > 6) {
-            return UNKNOWN;
         }
         int[] evenings = now.lane();
         int many = 0;
